@@ -13,6 +13,7 @@ final class PlanTests {
         noPlan();
         wrongArguments();
         manyPlans();
+        onceMore();
         mostCut();
         tooHigh();
     }
@@ -218,6 +219,32 @@ final class PlanTests {
         return ways[scenes];
     }
 
+    /** What an earlier call found plays no part. */
+    private static void onceMore() {
+        CliffSerial x = oneSheet("a300!9 b300!8 c300!7");
+        Check.due("three", x.plan(1), 24);
+        x.remove(2);
+        Check.due("two", x.plan(1), 17);
+        x.remove(1);
+        Check.due("one", x.plan(1), 9);
+        due(x, 1);
+        x.change(0, 0, 301);
+        Check.due("none", x.plan(1), Check.NONE);
+        CliffSerial z = oneSheet("a150!9 b50!9 c120!9");
+        due(z, 1, 2);
+        z.setWeek(1, 1, 201);
+        due(z, 1, 1, 1);
+        CliffSerial y = new CliffSerial();
+        for (int i = 0; i < 20; i++) {
+            y.insert(0, 20, 0, 0, 0);
+        }
+        due(y, 20);
+        y.set(20);
+        y.print();
+        Check.due("all twenty are printed", y.plans(), 0);
+        Check.due("no level is low enough", y.tooHigh(), 0);
+    }
+
     private static void mostCut() {
         CliffSerial x = oneSheet("a310-100!7 b300!5");
         Check.due("the slack of the first", x.mostCut(), 100);
@@ -250,11 +277,27 @@ final class PlanTests {
         Check.due("more than a sheet is to be filled", z.mostCut(), 100);
         z.change(0, 1, 500);
         Check.due("but 299 are left", z.mostCut(), 299);
+        z.change(0, 1, 0);
+        Check.due("no slack, so 0", z.mostCut(), 0);
+        z.insert(1, 600, 0, 1, 4);
+        z.change(0, 1, 1);
+        z.change(0, 3, 6);
+        Check.due("1 would lose the cliff", z.mostCut(), 0);
+        z.insert(1, 600, 0, 2, 6);
+        Check.due("the level of the second", z.mostCut(), 0);
+        z.setNumber(1, 6);
+        z.setNumber(3, 9);
+        Check.due("6 is enough", z.mostCut(), 0);
+        z.change(1, 3, 5);
+        z.setNumber(3, 1);
+        Check.due("5 is not", z.mostCut(), Check.NONE);
     }
 
     private static void tooHigh() {
         CliffSerial x = oneSheet("a300!7 b300!9");
         Check.due("7 is the highest", x.tooHigh(), 8);
+        x.change(0, 3, 8);
+        Check.due("8 is the highest", x.tooHigh(), 9);
         x.change(0, 3, 9);
         Check.due("none is too high", x.tooHigh(), Check.NONE);
         x.setNumber(1, 0);

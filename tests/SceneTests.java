@@ -94,6 +94,12 @@ final class SceneTests {
         Check.due("remove the only one", x.remove(0), 0);
         Check.due("none there", x.scene(0, 0), Check.INVALID);
         Check.due("remove of none", x.remove(0), Check.INVALID);
+        for (int i = 0; i < 20; i++) {
+            x.insert(i, 10 + i, 0, 0, 0);
+        }
+        Check.due("one of twenty", x.remove(0), 19);
+        Check.due("the last of nineteen", x.scene(18, 0), 29);
+        Check.due("no twentieth", x.scene(19, 0), Check.INVALID);
     }
 
     private static void removeRefuses() {

@@ -35,7 +35,9 @@ final class TextTests {
         Check.due("clear", x.clearText(), 4);
         Check.due("empty", x.count(20), 0);
         Check.due("no action", x.count(19), 0);
-        Make.write(x, "b2!2");
+        Make.write(x, "b2");
+        Check.due("nothing of the old text is read", x.read(), -1002);
+        Make.write(x, "!2");
         Check.due("a new text", x.read(), 1);
         Check.due("its strand", x.scene(0, 2), 1);
     }
@@ -44,11 +46,11 @@ final class TextTests {
         CliffSerial x = Make.novel("c600!9 d600!3");
         x.set(1);
         x.print();
-        Make.write(x, "a999-998!9;f1!0;c10-9!5");
+        Make.write(x, "a999-998!9;f2-1!0;c10-9!5");
         Check.due("read", x.read(), 3);
         Check.due("empty then", x.count(20), 0);
         Check.due("five scenes", x.count(0), 5);
-        int[][] rows = {{999, 998, 0, 9}, {1, 0, 5, 0}, {10, 9, 2, 5}};
+        int[][] rows = {{999, 998, 0, 9}, {2, 1, 5, 0}, {10, 9, 2, 5}};
         for (int i = 0; i < rows.length; i++) {
             for (int what = 0; what < 4; what++) {
                 Check.due("read scene " + i + ", " + what, x.scene(2 + i, what), rows[i][what]);
@@ -57,6 +59,10 @@ final class TextTests {
             Check.due("it has no cut", x.scene(2 + i, 4), 0);
         }
         Check.due("one action", x.count(19), 5);
+        Make.write(x, "b70!4");
+        Check.due("read one more", x.read(), 1);
+        Check.due("without the slack of the text before", x.scene(5, 1), 0);
+        x.undo();
         x.undo();
         Check.due("all are taken back", x.count(0), 2);
         Check.due("the text is not", x.count(20), 0);
@@ -125,6 +131,8 @@ final class TextTests {
             Make.write(x, (i == 0 ? "a" : ";a") + (i % 9 + 1) + "!" + i % 10);
         }
         Check.due("twenty", x.read(), 20);
+        Make.write(x, "a1-");
+        Check.due("a new text", x.read(), -1003);
         for (int i = 0; i < 20; i++) {
             Check.due("words", x.scene(i, 0), i % 9 + 1);
             Check.due("tension", x.scene(i, 3), i % 10);

@@ -14,6 +14,7 @@ final class WeekTests {
         print();
         printTakesTheCut();
         halfOfTheSlackLosesNothing();
+        sumsOfTwoInstalments();
         skip();
         moneyIsRoundedDown();
     }
@@ -205,12 +206,45 @@ final class WeekTests {
         x.set(1);
         x.print();
         Check.due("nothing is lost", x.scene(0, 3), 5);
+        CliffSerial z = Make.novel("a500-20!5 b100!5 c600!9 d600!9");
+        z.ask(20);
+        Check.due("a slack of 0 loses nothing", z.why(2), 0);
+        z.set(2);
+        z.print();
+        Check.due("tension of the one that was cut", z.scene(0, 3), 3);
+        Check.due("tension of the other one", z.scene(1, 3), 5);
+        for (int tension = 0; tension <= 9; tension++) {
+            CliffSerial one = Make.novel("a600-10!" + tension);
+            one.ask(6);
+            one.set(1);
+            one.print();
+            Check.due("2 less than " + tension, one.scene(0, 3), Math.max(0, tension - 2));
+        }
         CliffSerial y = Make.novel("a600-10!1");
         y.ask(10);
         y.set(1);
         Check.due("the last one", y.print(), 590);
         Check.due("it keeps 0", y.scene(0, 3), 0);
         Check.due("earned", y.count(15), 1180);
+    }
+
+    private static void sumsOfTwoInstalments() {
+        CliffSerial x = Make.novel("a600-30!9 b600-200!8 c600!0");
+        x.ask(10);
+        x.set(1);
+        x.print();
+        x.ask(20);
+        x.set(1);
+        x.ask(30);
+        x.print();
+        Check.due("words printed", x.count(10), 590 + 570);
+        Check.due("words cut", x.count(11), 40);
+        Check.due("instalments", x.count(12), 2);
+        Check.due("late cuts", x.count(14), 1);
+        Check.due("earned", x.count(15), 2 * 1160 + 10 * (9 + 8));
+        Check.due("owed", x.count(9), -190 - 170);
+        Check.due("words of week 0", x.week(0, 3), 590);
+        Check.due("words of week 1", x.week(1, 3), 570);
     }
 
     private static void skip() {

@@ -12,7 +12,6 @@ public final class CliffSerial {
     public static final int NONE = -100009;
 
     private static final int MOST_SCENES = 20;
-    private static final int MOST_WORDS = 999;
     private static final int STRANDS = 6;
     private static final int WEEKS = 30;
     private static final int MOST_SHEETS = 4;
@@ -628,7 +627,10 @@ public final class CliffSerial {
 
         int tensionAfter(int scene, int wordsCut) {
             int tension = scenes[TENSION][scene];
-            return 2 * wordsCut > scenes[SLACK][scene] ? Math.max(0, tension - LOST_TENSION) : tension;
+            if (2 * wordsCut <= scenes[SLACK][scene]) {
+                return tension;
+            }
+            return tension > LOST_TENSION ? tension - LOST_TENSION : 0;
         }
 
         int lastTension(int end, int cut) {
