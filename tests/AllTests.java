@@ -14,6 +14,14 @@ public final class AllTests {
         TextTests.run();
         LookingTests.run();
         PlanTests.run();
+        EdgesOfScenes.run();
+        EdgesOfInstalments.run();
+        EdgesOfActions.run();
+        EdgesOfHistory.run();
+        EdgesOfText.run();
+        EdgesOfLooking.run();
+        EdgesOfPlans.run();
+        FarArguments.run();
         RoomTests.run();
         RandomRuns.run();
         System.out.println(Check.passed + " passed, " + Check.failed + " failed");
