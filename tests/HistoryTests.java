@@ -1,3 +1,6 @@
+import java.util.List;
+import java.util.function.Consumer;
+
 /** Promises 13 to 15. */
 final class HistoryTests {
     private HistoryTests() {
@@ -104,23 +107,31 @@ final class HistoryTests {
 
     /** Also those that change nothing. */
     private static void everyActionIsRecorded() {
-        CliffSerial x = Make.novel("a600-100!9 b600-100!9 c20!9 d600!9");
-        Runnable[] actions = {
-            () -> x.setNumber(1, 5), () -> x.setWeek(0, 2, 0), () -> x.ask(0), () -> x.change(0, 0, 600),
-            () -> x.take(0), () -> x.restore(0), () -> x.set(1), () -> x.unset(), () -> x.set(1),
-            () -> x.print(), () -> x.skip(), () -> x.remove(3), () -> x.insert(1, 600, 0, 5, 9),
-            () -> { Make.write(x, "a1!0"); x.read(); }};
-        for (int i = 0; i < actions.length; i++) {
-            String before = Make.looks(x);
-            int states = x.count(19);
-            actions[i].run();
-            Check.due("action " + i + " is recorded", x.count(19), Math.min(6, states + 1));
-            String behind = Make.looks(x);
+        List<Consumer<CliffSerial>> actions = List.of(
+            x -> x.setNumber(1, 5), x -> x.setWeek(0, 2, 0), x -> x.ask(0), x -> x.change(0, 0, 600),
+            x -> x.take(0), x -> x.restore(0), x -> x.set(1), x -> x.unset(), x -> x.set(1),
+            x -> x.print(), x -> x.skip(), x -> x.remove(3), x -> x.insert(1, 600, 0, 5, 9),
+            x -> { Make.write(x, "a1!0"); x.read(); });
+        for (int i = 0; i < actions.size(); i++) {
+            CliffSerial before = behind(actions.subList(0, i));
+            CliffSerial x = behind(actions.subList(0, i + 1));
+            Check.due("action " + i + " is recorded", x.count(19), Math.min(6, before.count(19) + 1));
             x.undo();
-            Check.holds("action " + i + " is undone", before.equals(Make.looks(x)));
-            actions[i].run();
-            Check.holds("action " + i + " again", behind.equals(Make.looks(x)));
+            Check.holds("action " + i + " is undone", Make.looks(before).equals(Make.looks(x)));
+            actions.get(i).accept(x);
+            Check.holds("action " + i + " again",
+                    Make.looks(behind(actions.subList(0, i + 1))).equals(Make.looks(x)));
         }
+        mendIsRecorded();
+    }
+
+    private static CliffSerial behind(List<Consumer<CliffSerial>> actions) {
+        CliffSerial x = Make.novel("a600-100!9 b600-100!9 c20!9 d600!9");
+        actions.forEach(action -> action.accept(x));
+        return x;
+    }
+
+    private static void mendIsRecorded() {
         CliffSerial y = Make.novel("a350!9 b20!9 c600!9");
         y.set(1);
         y.setWeek(0, 3, 250);
