@@ -1,12 +1,16 @@
+import java.nio.file.Path;
+
 /** Runs every test of the project; ends with exit code 1 if one failed. */
 public final class AllTests {
     private AllTests() {
     }
 
-    /** The one argument is the path of CliffSerial.java. */
+    /** The arguments: the project's folder, and one that does not exist yet, for what the tests make. */
     public static void main(String[] args) throws Exception {
+        Path project = Path.of(args[0]);
         FaceTests.run();
-        LanguageTests.run(args[0]);
+        LanguageTests.run(project.resolve("src/main/java/CliffSerial.java"));
+        ReadmeTests.run(project, Path.of(args[1]));
         SceneTests.run();
         PaperTests.run();
         WeekTests.run();
@@ -24,6 +28,7 @@ public final class AllTests {
         FarArguments.run();
         RoomTests.run();
         RandomRuns.run();
+        PlanRuns.run();
         System.out.println(Check.passed + " passed, " + Check.failed + " failed");
         if (Check.failed > 0) {
             System.exit(1);

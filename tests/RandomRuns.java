@@ -142,7 +142,7 @@ final class RandomRuns {
             case 0:
                 a[0] = oneIn(3) ? all : between(printed - (oneIn(9) ? 1 : 0), all + (oneIn(9) ? 1 : 0));
                 a[1] = words();
-                a[2] = oneIn(2) ? 0 : below(a[1] + (oneIn(9) ? 1 : 0));
+                a[2] = oneIn(2) ? 0 : below(Math.max(1, a[1] + (oneIn(9) ? 1 : 0)));
                 a[3] = oneIn(40) ? between(-1, 6) : below(manner == 1 ? 2 : 6);
                 a[4] = oneIn(40) ? between(-1, 10) : oneIn(2) ? between(5, 9) : below(10);
                 break;
